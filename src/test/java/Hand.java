@@ -1,0 +1,67 @@
+/** What the tests do again and again with a stripe: telling it a text, giving it gaps. */
+final class Hand {
+    private Hand() {
+    }
+
+    /** Feeds a text of at most 160 bytes, padded with blanks and cut to its length. */
+    static void feed(SwipedStripe x, String t) {
+        x.end(0);
+        for (int i = 0; i < t.length(); i += 8) {
+            long v = 0;
+            for (int k = 0; k < 8; k++) {
+                v = v << 8 | (i + k < t.length() ? t.charAt(i + k) & 255 : ' ');
+            }
+            x.feed(v);
+        }
+        x.end(t.length());
+    }
+
+    static int tell(SwipedStripe x, String t) {
+        feed(x, t);
+        return x.text();
+    }
+
+    /** GAPS as given, in place of those there were; SHEET 3 is used for it. */
+    static void gaps(SwipedStripe x, int... gaps) {
+        x.wipe();
+        for (int from = 0; from < gaps.length; from += 64) {
+            int n = Math.min(64, gaps.length - from);
+            x.sheet(3, 2, n);
+            for (int i = 0; i < n; i++) {
+                x.lay(3, i, gaps[from + i]);
+            }
+            x.load(3, 2, 0, n);
+        }
+    }
+
+    /** GAPS of bits as an even hand would draw them: 100 for a 0, 50 and 50 for a 1. Blanks in bits are passed over. */
+    static void bits(SwipedStripe x, String bits) {
+        String some = bits.replace(" ", "");
+        int[] gaps = new int[some.length() + some.replace("0", "").length()];
+        int n = 0;
+        for (char c : some.toCharArray()) {
+            if (c == '0') {
+                gaps[n++] = 100;
+            } else {
+                gaps[n++] = 50;
+                gaps[n++] = 50;
+            }
+        }
+        gaps(x, gaps);
+    }
+
+    /** All that can be asked of a stripe without changing it, in one text. */
+    static String state(SwipedStripe x) {
+        StringBuilder b = new StringBuilder();
+        for (int i = 0; i < 9; i++) {
+            b.append(x.rule(i)).append(' ').append(x.count(i)).append(' ').append(x.joined(i)).append(' ');
+        }
+        for (int i = 0; i < 33; i++) {
+            b.append(x.value(i)).append(' ').append(x.join(i)).append(' ');
+        }
+        for (int i = 0; i < 320; i++) {
+            b.append(x.gap(i)).append(' ');
+        }
+        return b.append(x.fault()).append(' ').append(x.torn()).toString();
+    }
+}
