@@ -141,6 +141,16 @@ public final class DrawsTest {
         x.keep();
         joinedIs(x, "of 32 places", 32, 2, 0, 1 << 31);
         CHECKS.due("the last of 32", x.join(31), 4);
+        SwipedStripe y = new SwipedStripe();
+        Hand.tell(y, "bits 6;begin 1;close 2;plain;");
+        Hand.bits(y, "0 1000000 1111110 0000001 1111110 0100000");
+        y.keep();
+        y.keep();
+        joinIs(y, "of the greatest value without its parity and the least with it", -4, 0, -4);
+        joinedIs(y, "of two", 3, 2, 2, 0);
+        Hand.bits(y, "0 1000000 1111111 0000000 1111111 0100000");
+        y.keep();
+        joinIs(y, "of the greatest value with its parity", 63, 0, 63);
         Hand.bits(x, "0 1000" + "0000".repeat(32) + "0100");
         x.drop();
         x.keep();

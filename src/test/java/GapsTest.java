@@ -139,6 +139,8 @@ public final class GapsTest {
         gapsAre(x, "swaying by 5", due);
         x.write(100, 0, 5, 0);
         gapsAre(x, "the same again", due);
+        x.write(100, 0, 1, 0);
+        CHECKS.due("swaying by 1", x.gap(0), 99);
         x.write(100, 0, 0, 77);
         CHECKS.due("no sway, whatever the seed", x.gap(0), 100);
         x.write(4, 0, 99, 0);

@@ -19,6 +19,7 @@ public final class ReadingTest {
         mendedNot();
         way();
         smooth();
+        smoothOfAll();
         smoothByTrying();
         margin();
         sway();
@@ -162,6 +163,8 @@ public final class ReadingTest {
         finds("", "00000000 11010 01101 00001 11111 01000 000", 0, 8, 2, 0, 0);
         finds("plain;", "0 11010 01101 11111", 0, 1, 1, 0, 0);
         finds("plain;even;", "0 11011 01100 11110", 0, 1, 1, 0, 0);
+        // the first bit is always a 0, and may be one of BEGIN's
+        finds("plain;begin 0;", "00001 11111", 0, 0, 0, 0, 0);
         // BEGIN once more is a value like any other one
         finds("", "0 11010 11010 11111 11111", 0, 1, 1, 0, 0);
         // the first BEGIN, wherever it stands
@@ -311,7 +314,7 @@ public final class ReadingTest {
     private static void smooths(int sum, String bits, int... gaps) {
         SwipedStripe x = new SwipedStripe();
         Hand.gaps(x, gaps);
-        String of = " of " + java.util.Arrays.toString(gaps);
+        String of = " of " + (gaps.length > 12 ? gaps.length + " gaps" : java.util.Arrays.toString(gaps));
         CHECKS.due("smooth(0)" + of, x.smooth(0), sum);
         CHECKS.due("smooth(1)" + of, x.smooth(1), bits.length());
         CHECKS.due("smooth(2)" + of, x.smooth(2), bits.replace("0", "").length());
@@ -335,6 +338,28 @@ public final class ReadingTest {
         smooths(40, "010", 40, 10, 10, 40);
         // 0000, 010 and 11 are all 40
         smooths(40, "0000", 60, 40, 40, 60);
+    }
+
+    /** As many gaps as there may be, the last ones deciding: 320 of 40, or all but 4 of them and 20, 20, 20, 20. */
+    private static void smoothOfAll() {
+        int[] gaps = new int[320];
+        java.util.Arrays.fill(gaps, 40);
+        smooths(0, "0".repeat(320), gaps);
+        java.util.Arrays.fill(gaps, 316, 320, 20);
+        smooths(0, "0".repeat(316) + "11", gaps);
+        gaps[319] = 9999;
+        // 0000 is 20 + 9979, 010 is 20 + 20 + 9959, 100 is 20 + 9979: the least row of these
+        smooths(9999, "0".repeat(320), gaps);
+        gaps[319] = 45;
+        // 100 is 20 + 25, 010 is 20 + 20 + 5, 0000 is 20 + 25: once more the least
+        smooths(45, "0".repeat(320), gaps);
+        gaps[319] = 40;
+        gaps[318] = 21;
+        // 100 is 19 + 19, 0000 is 20 + 1 + 19, 010 is 20 + 21 + 1 + 1
+        smooths(38, "0".repeat(316) + "100", gaps);
+        gaps[316] = 40;
+        // 0010 is 1 + 1 + 1
+        smooths(3, "0".repeat(317) + "10", gaps);
     }
 
     private static void smoothByTrying() {
@@ -385,6 +410,9 @@ public final class ReadingTest {
     private static void margin() {
         margins(0, 1, 4, 100, 100, 50, 50);
         margins(0, 1, 100, 100, 76);
+        margins(0, 3, 28, 7, 6);
+        margins(0, 1, 4, 9999, 9999);
+        margins(0, 1, 39996, 9999, 7499, 2500);
         margins(0, 0, 1, 100, 75, 25);
         margins(0, 0, 1, 100, 100, 75, 25);
         margins(0, 1, 4, 100, 120, 100);

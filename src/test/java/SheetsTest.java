@@ -31,11 +31,13 @@ public final class SheetsTest {
         CHECKS.due("cells", x.count(5), 0);
         CHECKS.due("n 64", x.sheet(0, 0, 64), 1);
         CHECKS.due("cells", x.count(5), 64);
+        x.lay(0, 0, 9);
         x.lay(0, 63, 9);
         CHECKS.due("refused", x.sheet(0, 0, -1), -14);
         CHECKS.due("a refused one leaves it", x.load(0, 0, 63, 1), 1);
         CHECKS.due("a new one", x.sheet(0, 0, 64), 1);
         CHECKS.due("its cells are 0", x.load(0, 0, 63, 1), -20);
+        CHECKS.due("its first cell too", x.load(0, 0, 0, 1), -20);
         for (int k = 1; k < 4; k++) {
             CHECKS.due("sheet " + k, x.sheet(k, k - 1, k), 1);
             CHECKS.due("its last cell", x.lay(k, k - 1, 1), 1);

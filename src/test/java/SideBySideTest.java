@@ -1,4 +1,5 @@
 import java.util.ArrayList;
+import java.util.Collections;
 import java.util.List;
 import java.util.Random;
 
@@ -43,7 +44,7 @@ public final class SideBySideTest {
 
     private void go() {
         while (calls.size() < CALLS && same) {
-            switch (chance.nextInt(10)) {
+            switch (chance.nextInt(40) == 0 ? 10 : chance.nextInt(10)) {
                 case 0 -> tellText();
                 case 1 -> fillRow();
                 case 2, 3 -> writeStripe();
@@ -51,6 +52,7 @@ public final class SideBySideTest {
                 case 5 -> useSheets();
                 case 6 -> keepSome();
                 case 7 -> anyCall();
+                case 10 -> loadMany();
                 default -> askAll();
             }
         }
@@ -115,14 +117,17 @@ public final class SideBySideTest {
 
     private String fairText() {
         int d = between(3, 6);
-        int begin = upTo((1 << d) - 1);
-        int close = (begin + 1 + upTo((1 << d) - 3)) % (1 << d);
+        int begin = upTo(chance.nextInt(8) == 0 ? 63 : (1 << d) - 1);
+        int close = chance.nextInt(8) == 0 ? upTo(63) : (begin + 1 + upTo((1 << d) - 2)) % (1 << d);
         List<String> lines = new ArrayList<>(List.of("bits " + d + ";", "begin " + begin + ";", "close " + close + ";"));
         List<String> others = List.of("lead " + between(1, 20) + ";", "tail " + between(1, 20) + ";",
                 "limit " + between(5, 60) + ";", "clock " + upTo(2) + ";", chance.nextBoolean() ? "odd;" : "even;",
                 chance.nextInt(3) > 0 ? "checked;" : "plain;");
         others.stream().filter(o -> chance.nextBoolean()).forEach(lines::add);
-        java.util.Collections.shuffle(lines, chance);
+        if (chance.nextInt(10) == 0) {
+            lines.add(List.of("odd;", "even;", "plain;", "checked;", "tail 3;", "bits 5;").get(chance.nextInt(6)));
+        }
+        Collections.shuffle(lines, chance);
         StringBuilder b = new StringBuilder();
         for (String line : lines) {
             b.append(" ".repeat(Math.max(0, upTo(6) - 4)));
@@ -255,10 +260,14 @@ public final class SideBySideTest {
     private void keepSome() {
         for (int n = upTo(7); n > 0; n--) {
             int seed = chance.nextInt();
+            if (chance.nextInt(3) == 0) {
+                otherRow();
+            }
             if (chance.nextInt(5) > 0) {
                 due("write 100 0 3 " + seed, x.write(100, 0, 3, seed), m.write(100, 0, 3, seed));
-                turnOneBit();
-                turnOneBit();
+                for (int turns = chance.nextInt(3); turns > 0; turns--) {
+                    turnOneBit();
+                }
             }
             due("keep", x.keep(), m.keep());
         }
@@ -271,6 +280,69 @@ public final class SideBySideTest {
         if (chance.nextInt(3) == 0) {
             due("drop", x.drop(), m.drop());
         }
+    }
+
+    /** As many values, or one more or less, so that draws differ from one another. */
+    private void otherRow() {
+        int n = Math.max(0, m.count(0) + (chance.nextInt(3) == 0 ? between(-1, 1) : 0));
+        due("clear", x.clear(), m.clear());
+        for (int i = 0; i < n; i++) {
+            int v = upTo(Math.min(3, (1 << m.rule(0)) - 1));
+            due("add " + v, x.add(v), m.add(v));
+        }
+    }
+
+    /** More symbols than a row can have, some 32 of them, loaded from sheets symbol by symbol. */
+    private void loadMany() {
+        int odd = chance.nextInt(2);
+        int d = 3;
+        String rules = "bits 3;begin 1;close 2;" + (odd == 1 ? "odd;" : "even;") + (chance.nextBoolean() ? "plain;" : "");
+        due("end", x.end(0), m.end(0));
+        for (int i = 0; i < rules.length(); i += 8) {
+            due("feed", x.feed(eight(rules, i)), m.feed(eight(rules, i)));
+        }
+        due("text", x.text(), m.text());
+        due("sheet 0 2 1", x.sheet(0, 2, 1), m.sheet(0, 2, 1));
+        due("lay 0 0 40", x.lay(0, 0, 40), m.lay(0, 0, 40));
+        due("load 0 2 0 1", x.load(0, 2, 0, 1), m.load(0, 2, 0, 1));
+        int many = between(30, 34);
+        int some = chance.nextInt(8);
+        loadSymbol(1, 1, d, odd, 1);
+        loadSymbol(2, some == 2 ? 3 : some, d, odd, many);
+        loadSymbol(3, 2, d, odd, 1);
+        loadSymbol(1, chance.nextInt(8), d, odd, 1);
+        askAll();
+        due("keep", x.keep(), m.keep());
+        due("joined 0", x.joined(0), m.joined(0));
+        due("joined 3", x.joined(3), m.joined(3));
+        due("join 31", x.join(31), m.join(31));
+    }
+
+    private void loadSymbol(int k, int v, int d, int odd, int times) {
+        int parity = (Integer.bitCount(v) + odd + (chance.nextInt(9) == 0 ? 1 : 0)) % 2;
+        int coded = v | parity << d;
+        int cells = d + 1 + Integer.bitCount(coded);
+        due("sheet " + k, x.sheet(k, 2, cells), m.sheet(k, 2, cells));
+        int at = 0;
+        for (int i = 0; i <= d; i++) {
+            boolean one = (coded >> i & 1) == 1;
+            for (int n = one ? 2 : 1; n > 0; n--) {
+                int g = one ? 20 : 40;
+                due("lay " + k + " " + at + " " + g, x.lay(k, at, g), m.lay(k, at, g));
+                at++;
+            }
+        }
+        for (int n = 0; n < times; n++) {
+            due("load " + k, x.load(k, 2, 0, cells), m.load(k, 2, 0, cells));
+        }
+    }
+
+    private static long eight(String t, int from) {
+        long v = 0;
+        for (int k = from; k < from + 8; k++) {
+            v = v << 8 | (k < t.length() ? t.charAt(k) : ' ');
+        }
+        return v;
     }
 
     // ---- asking

@@ -115,6 +115,8 @@ public final class TextTest {
     private static void faultNoToken() {
         faulty("hand 1;", 1, 0);
         faulty("bit 4;", 1, 0);
+        faulty("aits 4;", 1, 0);
+        faulty("bitt 4;", 1, 0);
         faulty("bitss 4;", 1, 0);
         faulty("Bits 4;", 1, 0);
         faulty("odd;  evenly;", 1, 6);
