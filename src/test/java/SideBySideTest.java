@@ -100,18 +100,22 @@ public final class SideBySideTest {
         while (padded.length() % 8 != 0) {
             padded.append((char) chance.nextInt(256));
         }
-        for (int i = 0; i < padded.length(); i += 8) {
-            long v = 0;
-            for (int k = 0; k < 8; k++) {
-                v = v << 8 | padded.charAt(i + k);
-            }
-            due("feed " + v, x.feed(v), m.feed(v));
-        }
+        feedAll(padded.toString());
         due("end " + t.length(), x.end(t.length()), m.end(t.length()));
         due("text \"" + t + "\"", x.text(), m.text());
         due("fault", x.fault(), m.fault());
         for (int what = 0; what < 9; what++) {
             due("rule " + what, x.rule(what), m.rule(what));
+        }
+    }
+
+    private void feedAll(String t) {
+        for (int i = 0; i < t.length(); i += 8) {
+            long v = 0;
+            for (int k = i; k < i + 8; k++) {
+                v = v << 8 | (k < t.length() ? t.charAt(k) : ' ');
+            }
+            due("feed " + v, x.feed(v), m.feed(v));
         }
     }
 
@@ -298,9 +302,7 @@ public final class SideBySideTest {
         int d = 3;
         String rules = "bits 3;begin 1;close 2;" + (odd == 1 ? "odd;" : "even;") + (chance.nextBoolean() ? "plain;" : "");
         due("end", x.end(0), m.end(0));
-        for (int i = 0; i < rules.length(); i += 8) {
-            due("feed", x.feed(eight(rules, i)), m.feed(eight(rules, i)));
-        }
+        feedAll(rules);
         due("text", x.text(), m.text());
         due("sheet 0 2 1", x.sheet(0, 2, 1), m.sheet(0, 2, 1));
         due("lay 0 0 40", x.lay(0, 0, 40), m.lay(0, 0, 40));
@@ -335,14 +337,6 @@ public final class SideBySideTest {
         for (int n = 0; n < times; n++) {
             due("load " + k, x.load(k, 2, 0, cells), m.load(k, 2, 0, cells));
         }
-    }
-
-    private static long eight(String t, int from) {
-        long v = 0;
-        for (int k = from; k < from + 8; k++) {
-            v = v << 8 | (k < t.length() ? t.charAt(k) : ' ');
-        }
-        return v;
     }
 
     // ---- asking
