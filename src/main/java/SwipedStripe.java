@@ -384,10 +384,10 @@ public final class SwipedStripe {
             return BAD;
         }
         Sheet source = sheets[k];
-        int refused = source.faultAs(lane);
+        int refused = 0;
         int came = 0;
         for (int i = 0; i < n && refused == 0; i++) {
-            refused = source.faultAt(f + i);
+            refused = source.faultAs(lane, f + i);
             if (refused == 0) {
                 if (!isGap(source.at(f + i))) {
                     return -20 - i;
@@ -1378,16 +1378,16 @@ public final class SwipedStripe {
             cells.zeros(n);
         }
 
-        /** Nothing can be taken as of any lane: the machine finds it when a cell is asked for. */
-        int faultAs(int asLane) {
-            return isNothing() || lane == asLane ? 0 : CAST;
-        }
-
         int faultAt(int i) {
             if (isNothing()) {
                 return NULL;
             }
             return cells.has(i) ? 0 : INDEX;
+        }
+
+        /** Another lane is found as a cell is asked for, like every fault: who asks for none is refused nothing. */
+        int faultAs(int asLane, int i) {
+            return isNothing() || lane == asLane ? faultAt(i) : CAST;
         }
 
         int at(int i) {

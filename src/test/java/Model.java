@@ -717,11 +717,12 @@ final class Model {
         List<Integer> coming = new ArrayList<>();
         int refused = 0;
         try {
-            byte[] bytes = lane == 0 ? (byte[]) sheets[k] : null;
-            short[] shorts = lane == 1 ? (short[]) sheets[k] : null;
-            int[] ints = lane == 2 ? (int[]) sheets[k] : null;
             for (int i = 0; i < n; i++) {
-                int g = lane == 0 ? bytes[f + i] : lane == 1 ? shorts[f + i] : ints[f + i];
+                int g = switch (lane) {
+                    case 0 -> ((byte[]) sheets[k])[f + i];
+                    case 1 -> ((short[]) sheets[k])[f + i];
+                    default -> ((int[]) sheets[k])[f + i];
+                };
                 if (g < 1 || g > 9999) {
                     return -20 - i;
                 }

@@ -8,6 +8,7 @@ public final class SheetsTest {
         lanes();
         load();
         loadTorn();
+        loadOfNone();
         loadRefused();
         loadFull();
         wipe();
@@ -141,11 +142,30 @@ public final class SheetsTest {
         CHECKS.due("load from far below", x.load(1, 1, Integer.MIN_VALUE, 64), 0);
         CHECKS.due("torn: INDEX", x.torn(), 2);
         CHECKS.due("still 2", x.count(1), 2);
-        // what the machine finds without a cell: another lane, but not nothing
-        CHECKS.due("load of 0 as BYTES", x.load(1, 0, 0, 0), 0);
+    }
+
+    /** The machine finds nothing where no cell is asked for: each such load ends whole, and what was torn is so no more. */
+    private static void loadOfNone() {
+        SwipedStripe x = laid(1, 10, 20);
+        x.sheet(2, 0, 0);
+        noneIsNotTorn(x, 1, 1, 0);
+        noneIsNotTorn(x, 1, 1, 2);
+        noneIsNotTorn(x, 1, 1, -1);
+        noneIsNotTorn(x, 1, 1, Integer.MAX_VALUE);
+        noneIsNotTorn(x, 1, 0, 0);
+        noneIsNotTorn(x, 1, 2, 99);
+        noneIsNotTorn(x, 2, 0, 0);
+        noneIsNotTorn(x, 2, 1, 0);
+        noneIsNotTorn(x, 0, 0, 0);
+        noneIsNotTorn(x, 0, 2, -1);
+        CHECKS.due("none came", x.count(1), 0);
+    }
+
+    private static void noneIsNotTorn(SwipedStripe x, int k, int lane, int f) {
+        CHECKS.due("load as INTS", x.load(1, 2, 0, 1), 0);
         CHECKS.due("torn: CAST", x.torn(), 3);
-        CHECKS.due("load of 0 of nothing", x.load(0, 0, 0, 0), 0);
-        CHECKS.due("torn", x.torn(), 0);
+        CHECKS.due("load of 0 of sheet " + k + " as lane " + lane + " from " + f, x.load(k, lane, f, 0), 0);
+        CHECKS.due("torn of sheet " + k + " as lane " + lane + " from " + f, x.torn(), 0);
     }
 
     private static void loadRefused() {
