@@ -1,5 +1,10 @@
+import java.util.function.IntUnaryOperator;
+
 /** Counts and prints the answers that are not the ones due; a test ends with finish(). */
 final class Checks {
+    /** The numbers at an int's own edges: only a seed and a CELL may be such a one. */
+    static final int[] FAR = {Integer.MIN_VALUE, Integer.MIN_VALUE + 1, Integer.MAX_VALUE - 1, Integer.MAX_VALUE};
+
     private int made = 0;
     private int wrong = 0;
 
@@ -18,6 +23,16 @@ final class Checks {
         if (!held) {
             wrong++;
             System.out.println("does not hold: " + what);
+        }
+    }
+
+    /** The call is BAD for each of these numbers, and for those at an int's own edges. */
+    void bad(String call, IntUnaryOperator asked, int... numbers) {
+        for (int n : numbers) {
+            due(call + " of " + n, asked.applyAsInt(n), SwipedStripe.BAD);
+        }
+        for (int n : FAR) {
+            due(call + " of " + n, asked.applyAsInt(n), SwipedStripe.BAD);
         }
     }
 

@@ -151,8 +151,9 @@ public final class DrawsTest {
         Hand.bits(y, "0 1000000 1111111 0000000 1111111 0100000");
         y.keep();
         joinIs(y, "of the greatest value with its parity", 63, 0, 63);
+        x = new SwipedStripe();
+        Hand.tell(x, "bits 3;begin 1;close 2;plain;");
         Hand.bits(x, "0 1000" + "0000".repeat(32) + "0100");
-        x.drop();
         x.keep();
         joinedIs(x, "of 32 places, all wrong", 32, 1, 32, 0);
         CHECKS.due("the last of 32, wrong", x.join(31), -4);

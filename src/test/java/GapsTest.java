@@ -152,14 +152,13 @@ public final class GapsTest {
     private static void writeRefused() {
         SwipedStripe x = small();
         x.write(60, 0, 0, 0);
-        String before = Hand.state(x);
         CHECKS.due("unit 3", x.write(3, 0, 0, 0), -1);
         CHECKS.due("unit 1000", x.write(1000, 0, 0, 0), -1);
         CHECKS.due("change -51", x.write(60, -51, 0, 0), -1);
         CHECKS.due("change 51", x.write(60, 51, 0, 0), -1);
         CHECKS.due("J -1", x.write(60, 0, -1, 0), -1);
         CHECKS.due("J 100", x.write(60, 0, 100, 0), -1);
-        CHECKS.holds("a refused write changes nothing", Hand.state(x).equals(before));
+        gapsAre(x, "as they were", 60, 30, 30, 60, 60, 30, 30, 60, 30, 30, 60, 30, 30, 60);
         // the stripe with the most 1s that there is still has room
         Hand.tell(x, "bits 6;begin 63;close 31;lead 20;tail 20;");
         for (int n = 0; n < 16; n++) {
@@ -217,14 +216,13 @@ public final class GapsTest {
         gapsAre(x, "split", 10, 19, 1, 1);
         CHECKS.due("split into 1 and 9", x.split(0, 1), 5);
         gapsAre(x, "split again", 1, 9, 19, 1, 1);
-        int[] many = new int[320];
-        java.util.Arrays.fill(many, 5);
-        Hand.gaps(x, many);
+        Hand.many(x, 320);
         CHECKS.due("split of 320", x.split(0, 2), -3);
-        CHECKS.due("BAD ahead of FULL", x.split(0, 5), -1);
-        gapsAre(x, "of 320", many);
+        CHECKS.due("BAD ahead of FULL", x.split(0, 101), -1);
+        CHECKS.due("the first of 320", x.gap(0), 101);
+        CHECKS.due("the last of 320", x.gap(319), 108);
         CHECKS.due("miss", x.miss(319 - 1), 319);
-        CHECKS.due("split of 319", x.split(318, 9), 320);
+        CHECKS.due("split of 319", x.split(318, 214), 320);
         CHECKS.due("the last", x.gap(319), 1);
     }
 

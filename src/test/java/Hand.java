@@ -50,18 +50,15 @@ final class Hand {
         gaps(x, gaps);
     }
 
-    /** All that can be asked of a stripe without changing it, in one text. */
-    static String state(SwipedStripe x) {
-        StringBuilder b = new StringBuilder();
-        for (int i = 0; i < 9; i++) {
-            b.append(x.rule(i)).append(' ').append(x.count(i)).append(' ').append(x.joined(i)).append(' ');
+    /** As many GAPS as told, 101 to 108 and so again, in few calls; SHEET 3 is used for it. */
+    static void many(SwipedStripe x, int n) {
+        x.wipe();
+        x.sheet(3, 2, 8);
+        for (int i = 0; i < 8; i++) {
+            x.lay(3, i, 101 + i);
         }
-        for (int i = 0; i < 33; i++) {
-            b.append(x.value(i)).append(' ').append(x.join(i)).append(' ');
+        for (int from = 0; from < n; from += 8) {
+            x.load(3, 2, 0, Math.min(8, n - from));
         }
-        for (int i = 0; i < 320; i++) {
-            b.append(x.gap(i)).append(' ');
-        }
-        return b.append(x.fault()).append(' ').append(x.torn()).toString();
     }
 }

@@ -297,9 +297,10 @@ public final class ReadingTest {
         Hand.bits(x, well);
         CHECKS.due("way", x.way(), 0);
         x.turn();
-        String before = Hand.state(x);
         CHECKS.due("way of a turned one", x.way(), 1);
-        CHECKS.holds("gaps stay", Hand.state(x).equals(before));
+        CHECKS.due("gaps stay turned", x.found(0) == 0 ? 1 : 0, 0);
+        x.turn();
+        CHECKS.due("gaps stay", x.found(0), 0);
         Hand.bits(x, "0 11010 01100 11111 01000 0");
         CHECKS.due("way of one with a fault", x.way(), -4);
         x.turn();
@@ -311,14 +312,21 @@ public final class ReadingTest {
         CHECKS.due("way of one that reads alike both ways", x.way(), 0);
     }
 
-    private static void smooths(int sum, String bits, int... gaps) {
+    private static SwipedStripe of(int... gaps) {
         SwipedStripe x = new SwipedStripe();
         Hand.gaps(x, gaps);
+        return x;
+    }
+
+    private static void smooths(int sum, String bits, int... gaps) {
+        SwipedStripe x = of(gaps);
         String of = " of " + (gaps.length > 12 ? gaps.length + " gaps" : java.util.Arrays.toString(gaps));
         CHECKS.due("smooth(0)" + of, x.smooth(0), sum);
         CHECKS.due("smooth(1)" + of, x.smooth(1), bits.length());
         CHECKS.due("smooth(2)" + of, x.smooth(2), bits.replace("0", "").length());
         for (int i = 0; i < bits.length(); i++) {
+            // a stripe is good for 512 calls
+            x = i % 100 == 99 ? of(gaps) : x;
             CHECKS.due("smoothBit(" + i + ")" + of, x.smoothBit(i), bits.charAt(i) - '0');
         }
         CHECKS.due("smoothBit beyond" + of, x.smoothBit(bits.length()), -1);
