@@ -11,6 +11,7 @@ public final class DrawEdgesTest {
         fewestAndMostPlaces();
         asManyAsMost();
         votes();
+        leastAndGreatest();
         noneHasItsParity();
         placesAsBits();
         drop();
@@ -177,6 +178,23 @@ public final class DrawEdgesTest {
         vote(0, 1, "1110", "0001", "1110 1110", "1110 1110 1110", "");
     }
 
+    /** The least and the greatest value that there is: 0 and 63. */
+    private static void leastAndGreatest() {
+        SwipedStripe x = new SwipedStripe();
+        Hand.tell(x, "bits 6;begin 1;close 2;plain;");
+        Hand.bits(x, "0 1000000 1111111 0000001 1111111 0100000");
+        x.keep();
+        joinedIs(x, "of 63, 0, 63", 3, 1, 0, 0);
+        joinIs(x, "of 63, 0, 63", 63, 0, 63);
+        Hand.bits(x, "0 1000000 0000001 1111111 1111111 0100000");
+        x.keep();
+        joinedIs(x, "of 63, 0, 63 and 0, 63, 63", 3, 2, 0, 3);
+        joinIs(x, "of 63, 0, 63 and 0, 63, 63", 0, 0, 63);
+        x.keep();
+        joinedIs(x, "of 63, 0, 63 and twice 0, 63, 63", 3, 3, 0, 3);
+        joinIs(x, "of 63, 0, 63 and twice 0, 63, 63", 0, 63, 63);
+    }
+
     private static void vote(int value, int disputed, String... draws) {
         SwipedStripe x = plain();
         int took = 0;
@@ -235,5 +253,10 @@ public final class DrawEdgesTest {
         CHECKS.due("gaps stay", x.found(0), 0);
         CHECKS.due("numbers begin again", x.keep(), 0);
         joinedIs(x, "of one", 1, 1, 0, 0);
+        // what had its PARITY before has no say in what is kept now
+        x.drop();
+        keep(x, "0000");
+        joinedIs(x, "of one without its PARITY", 1, 1, 1, 0);
+        joinIs(x, "of one without its PARITY", -4);
     }
 }

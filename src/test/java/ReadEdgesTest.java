@@ -12,6 +12,7 @@ public final class ReadEdgesTest {
         limits();
         noNextOne();
         slowClock();
+        readAgain();
         manyGaps();
         heard();
         foundRefused();
@@ -152,6 +153,26 @@ public final class ReadEdgesTest {
         reads("", 0, 4, 0, -4, 10, 11, 14, 8);
     }
 
+    /** Each READ begins anew: what another one FAILED at, or had as T, is gone. */
+    private static void readAgain() {
+        SwipedStripe x = of("", 100, 120, 141, 150);
+        for (int n = 0; n < 2; n++) {
+            int[][] due = {{2, 2, 2}, {4, 0, -4}, {4, 0, -4}};
+            for (int clock = 0; clock < 3; clock++) {
+                for (int what = 0; what < 3; what++) {
+                    CHECKS.due("read(" + clock + ", " + what + ")", x.read(clock, what), due[clock][what]);
+                }
+            }
+        }
+        Hand.gaps(x, 100, 50);
+        CHECKS.due("fails", x.read(1, 1), 1);
+        CHECKS.due("at", x.read(1, 2), 1);
+        Hand.gaps(x, 100);
+        CHECKS.due("bits", x.read(1, 0), 1);
+        CHECKS.due("fails", x.read(1, 1), 0);
+        CHECKS.due("at", x.read(1, 2), -4);
+    }
+
     private static void manyGaps() {
         SwipedStripe x = new SwipedStripe();
         Hand.many(x, 320);
@@ -223,6 +244,9 @@ public final class ReadEdgesTest {
         finds("", "000000 11010", 4, 6, -4, -4, -4);
         finds("", "000000 1101", 3, -4, -4, -4, -4);
         finds("", "0", 3, -4, -4, -4, -4);
+        // 0010 has no room ahead of the first bit, though its last three are there
+        finds("bits 3;begin 4;close 7;", "0100", 3, -4, -4, -4, -4);
+        finds("bits 3;begin 4;close 7;", "0010", 4, 0, -4, -4, -4);
         // with its PARITY, not without it
         finds("", "0 11011 11111 00100", 3, -4, -4, -4, -4);
         finds("even;", "0 11011 11110 00101", 0, 1, 0, 0, 0);
@@ -429,6 +453,7 @@ public final class ReadEdgesTest {
         mends(rules, "0 1000 0001 0100 0100", -4, -4, -4);
         mends(rules, "0 1000 1101 0100 1101", -4, -4, -4);
         mends(rules, "0 1000 1000 0100 1101", -4, -4, -4);
+        mends(rules, "0 1000 1100 0100 1101", -4, -4, -4);
         mends(rules, "0 1000 1111 0100 1101", -4, -4, -4);
         mends(rules + "plain;", "0 1000 0000 0100", -4, -4, -4);
         mends(rules + "plain;", "0 1000 1001 0100", -4, -4, -4);

@@ -144,6 +144,12 @@ public final class SmoothEdgesTest {
         // a 0 and 159 times a 1, and one GAP more
         int[] ones = IntStream.range(0, 320).map(i -> i == 0 || i == 319 ? 100 : 50).toArray();
         smooths(0, "0" + "1".repeat(159) + "0", ones);
+        ones[319] = 140;
+        smooths(40, "0" + "1".repeat(159) + "0", ones);
+        // the last GAP is far from the others
+        Arrays.fill(alike, 100);
+        alike[319] = 9999;
+        smooths(9899, "0".repeat(320), alike);
         int[] last = IntStream.range(0, 320).map(i -> i < 318 ? 100 : 50).toArray();
         smooths(0, "0".repeat(318) + "1", last);
     }
@@ -211,10 +217,19 @@ public final class SmoothEdgesTest {
     }
 
     private static void marginByClocks() {
-        // T is 100, then 100, 120 or 105: 4 times 100 less 3 T, by 4 T
-        margins(of(100, 120, 100), 0, 1, 4);
-        margins(of(100, 120, 100), 1, 1, 12);
-        margins(of(100, 120, 100), 2, 17, 84);
+        // T is 100, then 100, 120 or 105: 4 times 100 less 3 T, by 4 T; asked of one stripe, there and back
+        SwipedStripe x = of(100, 120, 100);
+        margins(x, 0, 1, 4);
+        margins(x, 1, 1, 12);
+        margins(x, 2, 17, 84);
+        margins(x, 1, 1, 12);
+        margins(x, 0, 1, 4);
+        Hand.gaps(x, 20, 16);
+        margins(x, 0, 1, 20);
+        CHECKS.due("sway of 20 and 16", x.sway(), 0);
+        Hand.gaps(x, 20, 20, 20, 20);
+        margins(x, 0, 1, 4);
+        CHECKS.due("sway of 20s", x.sway(), 2);
         // unlike denominators: 20 by 400 and 24 by 480 are as much, 25 by 480 is more, 23 by 480 is less
         margins(of(100, 80, 64), 1, 1, 20);
         margins(of(100, 80, 63), 1, 3, 80);

@@ -217,6 +217,10 @@ public final class TextEdgesTest {
                 faulty("  " + name.substring(n) + ";", 1, 2);
                 faulty(name.substring(0, n) + " " + name.substring(n) + ";", 1, 0);
             }
+            for (int n = 0; n < name.length(); n++) {
+                char other = (char) (name.charAt(n) == 'z' ? 'a' : name.charAt(n) + 1);
+                faulty(name.substring(0, n) + other + name.substring(n + 1) + ";", 1, 0);
+            }
         }
         faulty("a".repeat(160), 1, 0);
         faulty("odd;" + "z".repeat(156), 1, 4);
